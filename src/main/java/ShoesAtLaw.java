@@ -406,7 +406,7 @@ public final class ShoesAtLaw {
         return true;
     }
 
-    // The runs of one foot lie between the other's steps: there may be one run more than those, each of hops + 1 steps.
+    // The runs of one foot lie between the other's steps: one run more than there are of those, each of hops + 1 at most.
     private boolean canBeWalked(int left, int right) {
         int run = told.hops + 1;
         return left <= (right + 1) * run && right <= (left + 1) * run;
@@ -469,28 +469,30 @@ public final class ShoesAtLaw {
             int items = 0;
             nextToken();
             while (items < MAX_LETTERS && token != END) {
-                if (!readItem(into)) {
+                boolean stands;
+                switch (token) {
+                    case 'g':
+                        stands = readGood(into);
+                        break;
+                    case 'p':
+                        stands = readPair(into);
+                        break;
+                    case 'h':
+                        stands = readHops(into);
+                        break;
+                    case 'c':
+                        stands = readCells(into);
+                        break;
+                    default:
+                        stands = false;
+                }
+                if (!stands) {
                     return -10 - tokenStart;
                 }
                 items++;
                 nextToken();
             }
             return items;
-        }
-
-        private boolean readItem(Suit into) {
-            switch (token) {
-                case 'g':
-                    return readGood(into);
-                case 'p':
-                    return readPair(into);
-                case 'h':
-                    return readHops(into);
-                case 'c':
-                    return readCells(into);
-                default:
-                    return false;
-            }
         }
 
         private boolean readGood(Suit into) {

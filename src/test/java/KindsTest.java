@@ -105,7 +105,10 @@ public final class KindsTest {
         x.steps(0);
         Due.is("kept anew", x.keep(1), 5);
         x.undo();
+        x.steps(1);
+        Due.is("another foot: foot(4)", x.foot(4), 1);
         Due.is("back(1)", x.back(1), 5);
+        Due.is("as kept: foot(4)", x.foot(4), 0);
     }
 
     private static void imagesKeepNothingElse() {

@@ -82,6 +82,8 @@ public final class PartingsTest {
 
     private static void turns() {
         dueTurns(new ShoesAtLaw(), 0, 0, 0, NONE);
+        dueTurns(Due.told("g3 4;"), 0, 3, 0, 0);
+        dueTurns(Due.told("g3 4;"), 1, 0, 4, 0);
         dueTurns(Due.told("g5 5;g4 4;g3 3;"), 0, 8, 4, 0);
         dueTurns(Due.told("g5 5;g4 4;g3 3;"), 1, 4, 8, 0);
         dueTurns(Due.told("g9 0;g5 9;"), 1, 9, 9, 1);
@@ -133,6 +135,10 @@ public final class PartingsTest {
         dueLies("g0 0;g4 4;g3 3;", 0, 3, 1);
         // By a lie of good 0 LEFT gets only what is worth nothing to it: the first that gains is of good 1.
         dueLies("g0 8;g4 7;g4 6;p0 1 5 0;p0 2 5 0;", 0, 4, 109);
+        // RIGHT likes both goods alike: LEFT has the one or the other, and says which.
+        dueLies("g5 5;g4 5;", 0, 0, NONE);
+        dueLies("g4 5;g4 5;p0 1 9 0;", 0, 0, NONE);
+        dueLies("g7 5;g6 5;p0 1 9 0;", 1, 0, NONE);
         String run3 = "g9 8;g3 7;g6 6;g1 2;g0 4;g20 1;p0 3 10 10;p1 4 0 9;p0 3 2 2;p5 2 20 0;h3;c1;";
         dueLies(run3, 0, 9, 20);
         dueLies(run3, 1, 0, NONE);

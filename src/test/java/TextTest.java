@@ -11,6 +11,7 @@ public final class TextTest {
         textsThatEndTooEarly();
         suitRefusedChangesNothing();
         suitTellsAllAnew();
+        suitsAgainAndAgain();
         counts();
         Due.end();
     }
@@ -199,6 +200,17 @@ public final class TextTest {
         Due.is("nothing: count(0)", x.count(0), 0);
         Due.is("nothing: now(0)", x.now(0), 0);
         Due.is("nothing: now(2)", x.now(2), 0);
+    }
+
+    private static void suitsAgainAndAgain() {
+        ShoesAtLaw x = Due.told("g1 1;g2 2;g3 3;p0 1 4 4;p1 2 8 8;");
+        Due.retell(x, "g1 1;g2 2;p0 1 16 16;");
+        Due.is("values(0, 3)", x.values(0, 3), 19);
+        Due.retell(x, "g1 1;g2 2;g3 3;");
+        Due.is("no pairs: values(0, 7)", x.values(0, 7), 6);
+        Due.retell(x, "g1 1;g2 2;g3 3;p0 2 5 5;");
+        Due.is("one pair: values(0, 7)", x.values(0, 7), 11);
+        Due.is("one pair: count(1)", x.count(1), 1);
     }
 
     private static void counts() {
