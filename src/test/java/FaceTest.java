@@ -28,7 +28,7 @@ public final class FaceTest {
         fields();
         constructors();
         classesInside();
-        source(Files.readString(Path.of(System.getProperty("shoes.source")), StandardCharsets.ISO_8859_1));
+        source(Files.readString(Path.of(System.getProperty("shoes.root"), "src/main/java/ShoesAtLaw.java"), StandardCharsets.ISO_8859_1));
         Due.end();
     }
 
