@@ -172,7 +172,7 @@ public final class ShoesAtLaw {
             return BAD;
         }
         int table = present.setOf(TABLE, told.goods);
-        int end = partings.outcome(told, present.setOf(RIGHT, told.goods), table, side, 0);
+        int end = Partings.outcome(told, present.setOf(RIGHT, told.goods), table, side, 0);
         if (what == 2) {
             return end < SETS ? NONE : end / SETS - 1;
         }
@@ -868,7 +868,7 @@ public final class ShoesAtLaw {
         }
 
         /** RIGHT's goods in the end, and SETS times the good taken first and 1 (0: none is taken). */
-        private int outcome(Suit suit, int right, int table, int turn, int depth) {
+        private static int outcome(Suit suit, int right, int table, int turn, int depth) {
             if (table == 0 || depth >= MAX_GOODS) {
                 return right;
             }
